@@ -25,6 +25,40 @@ public final class PromiseTest {
         }
     }
 
+    /** A call that answers a FINDING, which count() 8 must tell then, whatever it told ahead of it. */
+    private static void finds(String what, PhraseTrees x, java.util.function.IntSupplier call, int want) {
+        due(what + ", another finding first", want == SIZE ? x.drop(3) : x.sheet(0, -1), want == SIZE ? NULL : SIZE);
+        due(what, call.getAsInt(), want);
+        due(what + ", count() 8", x.count(8), -10 - want);
+    }
+
+    private static void findings() {
+        PhraseTrees x = new PhraseTrees();
+        finds("14: lost", x, () -> x.read(0), NULL);
+        finds("25: empty", x, () -> x.take(0), NULL);
+        finds("26: empty", x, () -> x.drop(0), NULL);
+        finds("27: size", x, () -> x.crate(0, 0, -1), SIZE);
+        finds("28: lost", x, () -> x.lose(0), NULL);
+        finds("29: lost", x, () -> x.hold(0, 0, 0, 0), NULL);
+        finds("30: lost", x, () -> x.held(0, 0, 0), NULL);
+        finds("31: c is lost", x, () -> x.move(0, 0, 1, 0, 0), NULL);
+        finds("32: size", x, () -> x.sheet(0, -1), SIZE);
+        finds("33: lost", x, () -> x.lay(0, 0, 0), NULL);
+        finds("35: lost", x, () -> x.write(0), NULL);
+        x.crate(0, 0, 2);
+        x.crate(1, 2, 2);
+        x.sheet(0, 1);
+        x.hold(0, 0, 0, 2);
+        finds("29: index", x, () -> x.hold(0, 2, 0, 0), INDEX);
+        finds("29: store", x, () -> x.hold(1, 0, 0, 2), STORE);
+        finds("30: index", x, () -> x.held(0, 2, 0), INDEX);
+        finds("30: nothing", x, () -> x.held(0, 1, 0), NULL);
+        finds("31: d is lost", x, () -> x.move(0, 0, 2, 0, 0), NULL);
+        finds("31: index", x, () -> x.move(0, 0, 1, 0, 3), INDEX);
+        finds("31: store", x, () -> x.move(0, 0, 1, 0, 1), STORE);
+        finds("33: index", x, () -> x.lay(0, 1, 0), INDEX);
+    }
+
     private static PhraseTrees of(int m, int q, int width) {
         PhraseTrees x = new PhraseTrees();
         x.width(6);
@@ -136,6 +170,10 @@ public final class PromiseTest {
         due("3: the root alone is split", x.tree(0, 0), 3);
         x.letters(2, 1);
         due("3: two letters by one bit", x.width(1), 2);
+        PhraseTrees y = new PhraseTrees();
+        y.width(2);
+        due("3: at once on a new object", y.tree(0, 2), 1);
+        due("3: its words", new int[] {y.node(0, 1, 1), y.node(0, 2, 1), y.node(0, 3, 1)}, 0, 1, 2);
     }
 
     private static void weightTold() {
@@ -178,6 +216,8 @@ public final class PromiseTest {
         PhraseTrees z = of(5, 3, 6);
         due("5: five letters", z.tree(2, 0), 61);
         due("5: nodes of five letters", z.tree(2, 1), 76);
+        z.letters(3, 1);
+        due("5: letters that are no more", z.tree(0, 6) + z.tree(0, 7), 0);
     }
 
     private static void nodeTold() {
@@ -213,6 +253,15 @@ public final class PromiseTest {
         PhraseTrees w = of(4, 1, 3);
         due("6: of like ones the first is split", w.node(0, 1, 10), 4);
         due("6: and no other", w.node(0, 6, 10) + w.node(0, 7, 10) + w.node(0, 8, 10), 0);
+        w.width(5);
+        due("6: 10 is the last that is split", new int[] {letters(w, 0, 23), w.node(0, 23, 10)}, 110, 4);
+        due("6: 11 is not", new int[] {letters(w, 0, 28), w.node(0, 28, 10)}, 111, 0);
+        // 0 has 1/2, then 00, 1 and 2 have 1/4
+        PhraseTrees v = of(3, 1, 3);
+        v.weight(0, 0, 8);
+        v.weight(0, 1, 4);
+        due("6: 1 is shorter than 00", new int[] {letters(v, 0, 5), v.node(0, 5, 10)}, 11, 3);
+        due("6: 00 is not split", new int[] {letters(v, 0, 2), v.node(0, 2, 10)}, 100, 0);
     }
 
     private static void chanceTold() {
@@ -271,35 +320,42 @@ public final class PromiseTest {
         due("9: 6", x.expected(0, 2), Float.floatToIntBits(6f));
     }
 
+    /** For two states and two letters, by what chance() and expected() tell. */
+    private static double longRun(PhraseTrees x, int turns) {
+        double[][] ends = new double[2][2];
+        double[] mean = new double[2];
+        for (int q = 0; q < 2; q++) {
+            mean[q] = (double) x.expected(q, 0) / x.expected(q, 1);
+            for (int i = 0; i < x.tree(q, 1); i++) {
+                if (x.node(q, i, 1) != NONE) {
+                    int last = x.node(q, i, 1 + x.node(q, i, 0));
+                    ends[q][last] += (double) x.chance(q, i, 0) / x.chance(q, i, 1);
+                }
+            }
+        }
+        double[] p = {1.0, 0.0};
+        for (int turn = 0; turn < turns; turn++) {
+            p = new double[] {p[0] * ends[0][0] + p[1] * ends[1][0], p[0] * ends[0][1] + p[1] * ends[1][1]};
+        }
+        return p[0] * mean[0] + p[1] * mean[1];
+    }
+
     private static void longRunTold() {
         PhraseTrees x = new PhraseTrees();
         due("10: one state", x.longRun(), Double.doubleToLongBits(1.6875));
+        x.width(2);
+        due("10: of another width", x.longRun(), Double.doubleToLongBits(1.0));
         PhraseTrees y = of(2, 2, 1);
         y.weight(0, 0, 15);
         y.weight(1, 0, 2);
         due("10: all phrases have a letter", y.longRun(), Double.doubleToLongBits(1.0));
-        // tree 0: 00 01 1, tree 1: 0 10 11; 64 turns by hand
+        // letters like to take turns, so that the shares still change in the last turn
         PhraseTrees z = of(2, 2, 2);
-        z.width(1);
-        z.weight(0, 0, 12);
-        z.weight(1, 0, 4);
-        z.width(2);
-        double[] p = {1.0, 0.0};
-        double[][] ends = new double[2][2];
-        double[] mean = new double[2];
-        for (int q = 0; q < 2; q++) {
-            mean[q] = (double) z.expected(q, 0) / z.expected(q, 1);
-            for (int i = 0; i < z.tree(q, 1); i++) {
-                if (z.node(q, i, 1) != NONE) {
-                    int last = z.node(q, i, 1 + z.node(q, i, 0));
-                    ends[q][last] += (double) z.chance(q, i, 0) / z.chance(q, i, 1);
-                }
-            }
-        }
-        for (int turn = 0; turn < 64; turn++) {
-            p = new double[] {p[0] * ends[0][0] + p[1] * ends[1][0], p[0] * ends[0][1] + p[1] * ends[1][1]};
-        }
-        due("10: two states", z.longRun(), Double.doubleToLongBits(p[0] * mean[0] + p[1] * mean[1]));
+        z.weight(0, 0, 1);
+        z.weight(1, 0, 14);
+        due("10: 64 turns", z.longRun(), Double.doubleToLongBits(longRun(z, 64)));
+        due("10: 63 would not do", longRun(z, 63) == longRun(z, 64) ? 1 : 0, 0);
+        due("10: nor 65", longRun(z, 65) == longRun(z, 64) ? 1 : 0, 0);
         PhraseTrees w = of(2, 3, 1);
         due("10: a state that no letter leads to", w.longRun(), Double.doubleToLongBits(1.0));
     }
@@ -412,6 +468,11 @@ public final class PromiseTest {
         due("16: full with the rest", x.decode(), FULL);
         x.put(40, 7);
         due("16: fault ahead of full", x.decode(), -1040);
+        x.wipe();
+        typeAll(x, 2, 2);
+        x.encode();
+        due("16: fewer words than before", x.decode(), 2);
+        due("16: letters of these alone", text(x), 2, 2);
     }
 
     private static void codeAndPut() {
@@ -512,6 +573,10 @@ public final class PromiseTest {
         due("22: the text stays", y.count(3), 6);
         PhraseTrees z = of(5, 1, 6);
         due("22: five letters want three bits", z.best(0), 3);
+        // by 6 bits 1212 is a phrase; by 2 bits it is 8 bits, by 3 9, by 4 8, by 5 10
+        PhraseTrees w = of(3, 1, 2);
+        typeAll(w, 1, 2, 1, 2);
+        due("22: the widest", 10 * w.best(0) + w.best(1), 66);
     }
 
     private static void likelyTold() {
@@ -575,8 +640,10 @@ public final class PromiseTest {
         x.weight(1, 0, 4);
         x.take(3);
         due("25: a slot is not changed by weights", x.tree(1, 3), 3);
+        due("25: chances of its trees", x.chance(1, 1, 0), 3);
         x.take(0);
         due("25: the other slot", x.tree(1, 3), 9);
+        due("25: chances of its trees, too", x.chance(1, 1, 0), 9);
         due("26: bad", x.drop(4) + x.drop(-1), 2 * BAD);
         due("26: empty", x.drop(1), NULL);
         due("26: how many are not", x.drop(3), 1);
@@ -717,7 +784,7 @@ public final class PromiseTest {
         due("32: size refused", x.sheet(0, LEAST), SIZE);
         due("32: the sheet stays", x.get(0, 79), -128);
         due("32: anew", x.sheet(0, 80), 80);
-        due("32: of zeros", x.get(0, 79), 0);
+        due("32: of zeros", new int[] {x.get(0, 0), x.get(0, 79)}, 0, 0);
     }
 
     private static void writeTold() {
@@ -801,10 +868,20 @@ public final class PromiseTest {
         due("37: no finding of its own", x.count(8), 4);
         x.rest(8);
         due("37: with a fault", x.digest() == h ? 1 : 0, 0);
+        PhraseTrees y = new PhraseTrees();
+        y.crate(0, 1, 1);
+        y.crate(3, 2, 1);
+        y.hold(3, 0, 0, 1);
+        h = told(y, 1);
+        for (int v : new int[] {NULL, NULL, NULL, 1, 0, Float.floatToIntBits(5f / 16f)}) {
+            h = 31 * h + v;
+        }
+        due("37: the first crate and the last", y.digest(), h);
     }
 
     public static void main(String[] args) {
         newObject();
+        findings();
         lettersTold();
         widthTold();
         weightTold();
