@@ -849,13 +849,19 @@ public final class PromiseTest {
         return 31 * (31 * h + x.likely(0)) + x.likely(1);
     }
 
-    private static void digestTold() {
+    private static PhraseTrees withText() {
         PhraseTrees x = of(3, 2, 3);
         x.weight(1, 0, 9);
         typeAll(x, 0, 1, 2, 2, 1, 0);
         x.encode();
-        due("37: no crates", x.digest(), told(x, 2));
-        due("37: the same again", x.digest(), x.digest());
+        return x;
+    }
+
+    private static void digestTold() {
+        PhraseTrees w = withText();
+        due("37: no crates", w.digest(), told(w, 2));
+        due("37: the same again", w.digest(), w.digest());
+        PhraseTrees x = withText();
         x.crate(1, 0, 2);
         x.hold(1, 0, 1, 0);
         x.count(8);
