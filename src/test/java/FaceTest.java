@@ -10,11 +10,15 @@ import java.util.Collections;
 import java.util.IdentityHashMap;
 import java.util.Set;
 import java.util.TreeSet;
+import java.util.regex.Matcher;
+import java.util.regex.Pattern;
 import java.util.stream.Collectors;
 
 /** The public face as the document tells it, what LANGUAGE.md rules out, and what an object takes of the room. */
 public final class FaceTest {
     private static final Path SOURCE = Path.of("src/main/java/PhraseTrees.java");
+    private static final Path DOC = Path.of("../shared/DOC.md");
+    private static final int MOST_LINES = 60;
     private static final String FACE = """
         int bits(int,int)
         int best(int)
@@ -94,9 +98,20 @@ public final class FaceTest {
         within(names);
     }
 
+    /** Static state would let one object's calls change another's answers. */
+    private static void noStaticState(Class<?> c) {
+        for (Field f : c.getDeclaredFields()) {
+            if (Modifier.isStatic(f.getModifiers())) {
+                due(f + " is a constant", Modifier.isFinal(f.getModifiers()) && f.getType().isPrimitive(), true);
+            }
+        }
+    }
+
     private static void within(Set<String> names) {
+        noStaticState(PhraseTrees.class);
         due("no more than twelve classes", PhraseTrees.class.getDeclaredClasses().length < 12, true);
         for (Class<?> c : PhraseTrees.class.getDeclaredClasses()) {
+            noStaticState(c);
             due(c + " is static", Modifier.isStatic(c.getModifiers()), true);
             due(c + " is not public", (c.getModifiers() & (Modifier.PUBLIC | Modifier.PROTECTED)) == 0, true);
             due(c + " has some twenty fields", c.getDeclaredFields().length <= 22, true);
@@ -119,7 +134,55 @@ public final class FaceTest {
         due("signs are 1 to 127", all.chars().allMatch(c -> c >= 1 && c <= 127), true);
         // all rows are made with the object, in fields and constructors, none by a call
         String calls = all.substring(all.indexOf("// ---- letters, states, trees"), all.indexOf("private static final class Setting"));
-        due("a call makes an object", java.util.regex.Pattern.compile("\\bnew \\w+[\\[(]").matcher(calls).find(), false);
+        due("a call makes an object", Pattern.compile("\\bnew \\w+[\\[(]").matcher(calls).find(), false);
+    }
+
+    /** The face as the document writes it, in its order, each call below the words that stand ahead of it. */
+    private static void document() throws java.io.IOException {
+        String all = Files.readString(SOURCE);
+        String doc = Files.readString(DOC);
+        String written = doc.substring(doc.indexOf("```java") + 7);
+        int at = 0;
+        int lines = 0;
+        for (String line : written.substring(0, written.indexOf("```")).trim().lines().map(String::trim).toList()) {
+            boolean isMember = line.endsWith(";") && !line.contains("=");
+            int found = all.indexOf(isMember ? line.substring(0, line.length() - 1) + " {" : line, at);
+            due("'" + line + "' stands there, behind the one ahead of it", found >= at, true);
+            at = Math.max(at, found);
+            lines++;
+        }
+        // beside its calls it has the class, the constants, the constructor and the end
+        due("lines of the face", (long) lines, FACE.lines().count() + 4);
+        sections(all, doc);
+    }
+
+    private static void sections(String all, String doc) {
+        Matcher ahead = Pattern.compile("Ahead of the calls (.*) the interface says: (---- .*)\\.").matcher(doc);
+        int sections = 0;
+        while (ahead.find()) {
+            int from = all.indexOf("// " + ahead.group(2));
+            int to = all.indexOf("// ----", from + 1);
+            for (String name : ahead.group(1).replaceAll("[`,]", "").split(" ")) {
+                int call = Math.max(all.indexOf("public int " + name + "("), all.indexOf("public long " + name + "("));
+                due(name + " stands below " + ahead.group(2), from >= 0 && call > from && call < to, true);
+            }
+            sections++;
+        }
+        due("sections of the face", sections, 4);
+    }
+
+    /** A method's head and its end stand at the same indent, which is 4, or 8 within a class inside. */
+    private static void shortMethods() throws java.io.IOException {
+        String all = Files.readString(SOURCE);
+        Matcher head = Pattern.compile("(?m)^( {4}| {8})(?! )[^\\n;=]*\\) \\{$").matcher(all);
+        int methods = 0;
+        while (head.find()) {
+            int end = all.indexOf("\n" + head.group(1) + "}", head.start());
+            long lines = all.substring(head.start(), Math.max(end, head.start())).lines().count() + 1;
+            due(head.group().trim() + " has at most " + MOST_LINES + " lines", end > 0 && lines <= MOST_LINES, true);
+            methods++;
+        }
+        due("methods are found", methods > 36, true);
     }
 
     private static long things = 0, elements = 0;
@@ -156,7 +219,9 @@ public final class FaceTest {
 
     public static void main(String[] args) throws Exception {
         face();
+        document();
         source();
+        shortMethods();
         room();
         System.out.println(checks - wrong + " of " + checks + " checks hold");
         System.exit(wrong == 0 ? 0 : 1);
